@@ -401,6 +401,7 @@ public final class PromisesTest {
         due("24: of the other", x.judge(1, 3130), NONE);
         due("24: another value", x.judge(1, 3021), 0);
         due("24: no such weight", x.judge(1, 3230), 0);
+        due("24: nor one that what is left over could pass for", x.judge(1, 3200), 0);
         due("24: the master told", x.judge(2, 60113019), NONE);
         due("24: the value that was", x.judge(2, 60113020), 1);
         due("24: 6 has a 0", x.judge(1, 6111), 0);
