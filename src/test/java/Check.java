@@ -68,7 +68,9 @@ final class Check {
     static String standing(BalanceRoom x) {
         StringBuilder line = new StringBuilder();
         line.append('N').append(x.count(1)).append(" M").append(x.count(2));
-        for (int t = 0; t < x.count(3); t++) line.append(' ').append(x.code(t)).append(':').append(x.reading(t) - 1000);
+        // Asked once: an object answers for 512 calls, and drained asks this of it many times.
+        int many = x.count(3);
+        for (int t = 0; t < many; t++) line.append(' ').append(x.code(t)).append(':').append(x.reading(t) - 1000);
         return line.toString();
     }
 

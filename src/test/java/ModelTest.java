@@ -1,9 +1,15 @@
 import java.util.Random;
 
-/** Long runs of calls, by fixed seeds, on the class and on the slow model: each answer must be alike. */
+/**
+ * Long runs of calls, by fixed seeds, on the class and on the slow model: each answer must be alike.
+ * What to call next is taken from the model, so that each call of the object is one that is compared.
+ */
 public final class ModelTest {
-    private static final int RUNS = 700;
-    private static final int CALLS = 400;
+    private static final int RUNS = 1000;
+    /** A run may go on to 98 calls more (a text told anew), and then to 14 acts undone. */
+    private static final int CALLS = 300;
+    /** What later calls of an object answer is free. */
+    private static final int CALLS_PROMISED = 512;
     private static final int MOST_TOLD = 20;
 
     private final Random random;
@@ -28,6 +34,9 @@ public final class ModelTest {
 
     private void alike(String call, long got, long due) {
         calls++;
+        if (calls > CALLS_PROMISED) {
+            throw new IllegalStateException("run " + run + " asks for more than the document promises");
+        }
         if (got != due && wrong++ < MOST_TOLD) {
             System.out.println("run " + run + ", call " + calls + ": " + call + " answered " + got + ", due is " + due);
         }
@@ -109,11 +118,11 @@ public final class ModelTest {
 
     private int someCode() {
         if (pick(8) == 0) return around(0, 23000);
-        return Integer.parseInt(pans(random, 1 + x.count(1)).replace('+', '1').replace('-', '2'));
+        return Integer.parseInt(pans(random, 1 + model.count(1)).replace('+', '1').replace('-', '2'));
     }
 
     private void acts() {
-        int last = x.count(3) - 1;
+        int last = model.count(3) - 1;
         int a = around(0, last);
         int b = around(0, last);
         int reading = around(-999, 999);
@@ -133,8 +142,8 @@ public final class ModelTest {
     private void asked() {
         boolean d = flip();
         boolean u = flip();
-        int w = around(0, x.count(1));
-        int t = around(0, x.count(3) - 1);
+        int w = around(0, model.count(1));
+        int t = around(0, model.count(3) - 1);
         switch (pick(6)) {
             case 0 -> alike("rank(" + d + ")", x.rank(d), model.rank(d));
             case 1 -> alike("value(" + w + ", " + d + ", " + u + ")", x.value(w, d, u), model.value(w, d, u));
@@ -146,15 +155,15 @@ public final class ModelTest {
     }
 
     private String doing() {
-        int last = Math.max(1, x.count(3));
+        int last = Math.max(1, model.count(3));
         int a = pick(last);
-        int true3 = (int) Math.floorMod(x.value(pick(4), false, true), 100L);
+        int true3 = (int) Math.floorMod(model.value(pick(4), false, true), 100L);
         switch (pick(9)) {
             case 0: return "1" + a + pick(last) + "0";
             case 1: return "2" + a + "00";
             case 2: return "3" + pick(4) + true3 / 10 + true3 % 10;
-            case 3: return "4" + x.rank(false) + "00";
-            case 4: return "5" + Math.max(0, x.doubtful(false)) + "00";
+            case 3: return "4" + model.rank(false) + "00";
+            case 4: return "5" + Math.max(0, model.doubtful(false)) + "00";
             case 5: return "60" + pick(10) + pick(10);
             case 6: return "1" + a + (a + 1) % 10 + "0";
             case 7: return "" + (1 + pick(6)) + pick(9) + (pick(3) == 0 ? pick(10) : 0) + (pick(3) == 0 ? pick(10) : 0);
@@ -176,11 +185,11 @@ public final class ModelTest {
     private void askedMore() {
         boolean d = flip();
         boolean u = flip();
-        int t = around(0, x.count(3) - 1);
+        int t = around(0, model.count(3) - 1);
         int tenths = around(0, 10);
         switch (pick(8)) {
             case 0 -> {
-                if (x.count(1) < 4 || pick(3) == 0) alike("next(" + d + ")", x.next(d), model.next(d));
+                if (model.count(1) < 4 || pick(3) == 0) alike("next(" + d + ")", x.next(d), model.next(d));
             }
             case 1 -> alike("better()", x.better(), model.better());
             case 2 -> alike("doubtful(" + d + ")", x.doubtful(d), model.doubtful(d));
@@ -202,7 +211,7 @@ public final class ModelTest {
         int m = around(1, pick(3) == 0 ? 20 : 4);
         int what = around(0, 4);
         long v = flip() ? random.nextLong() : pick(10);
-        int t = around(0, x.count(3) - 1);
+        int t = around(0, model.count(3) - 1);
         switch (pick(7)) {
             case 0 -> alike("keep(" + slot + ")", x.keep(slot), model.keep(slot));
             case 1 -> {
@@ -238,9 +247,12 @@ public final class ModelTest {
             else if (kind < 34) askedMore();
             else others();
         }
-        while (x.count(4) > 0) {
+        while (model.count(4) > 0) {
             alike("undo()", x.undo(), model.undo());
-            seen();
+            for (int what = 1; what < 4; what++) alike("count(" + what + ")", x.count(what), model.count(what));
+            int t = pick(8);
+            alike("code(" + t + ")", x.code(t), model.code(t));
+            alike("reading(" + t + ")", x.reading(t), model.reading(t));
         }
     }
 

@@ -545,14 +545,6 @@ public final class PromisesTest {
         for (int what : new int[] {-1, 5, LEAST, MOST}) due("31: count " + what, x.count(what), OUTSIDE);
     }
 
-    private static void readmeExample() {
-        BalanceRoom x = roomOf("B107w-+-002w-++003");
-        due("README: weigh", x.weigh(21, 9), 3);
-        fraction("README: value", x.value(0, false, true), x.value(0, false, false), 31, 3);
-        due("README: doubtful", x.doubtful(false), 2);
-        due("README: undo", x.undo(), 0);
-    }
-
     public static void main(String[] args) {
         promise1aNewObject();
         promise2write();
@@ -580,7 +572,6 @@ public final class PromisesTest {
         promise28drawn();
         promise29and30keepAndAgain();
         promise31count();
-        readmeExample();
         System.out.println(wrong == 0 ? "all answers are as due" : wrong + " answers are not as due");
         if (wrong != 0) System.exit(1);
     }
